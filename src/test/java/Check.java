@@ -1,0 +1,59 @@
+/** Counts and prints the calls whose answer is not the one that is due. */
+final class Check {
+    interface Order {
+        void carryOut();
+    }
+
+    private int wrong;
+
+    void same(String what, long got, long due) {
+        if (got != due) {
+            wrong++;
+            System.out.println(what + ": " + got + ", due is " + due);
+        }
+    }
+
+    void text(String what, String got, String due) {
+        String bare = due.replace(" ", "");
+        if (!got.equals(bare)) {
+            wrong++;
+            System.out.println(what + ": " + got + ", due is " + bare);
+        }
+    }
+
+    void yes(String what, boolean got) {
+        same(what, got ? 1 : 0, 1);
+    }
+
+    void no(String what, boolean got) {
+        same(what, got ? 1 : 0, 0);
+    }
+
+    void badArgument(String what, Order order) {
+        outcome(what, order, "IllegalArgumentException");
+    }
+
+    void badState(String what, Order order) {
+        outcome(what, order, "IllegalStateException");
+    }
+
+    private void outcome(String what, Order order, String due) {
+        String got = "nothing";
+        try {
+            order.carryOut();
+        } catch (RuntimeException e) {
+            got = e.getClass().getSimpleName();
+        }
+        if (!got.equals(due)) {
+            wrong++;
+            System.out.println(what + " throws " + got + ", due is " + due);
+        }
+    }
+
+    void end() {
+        if (wrong != 0) {
+            System.out.println(wrong + " answers are not as due");
+            System.exit(1);
+        }
+    }
+}
