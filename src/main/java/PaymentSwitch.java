@@ -1654,7 +1654,7 @@ public final class PaymentSwitch {
             int acquirer = (int) named;
             int row = archive.find(acquirer, m);
             if (row != NONE) {
-                return answerAgain(row, in);
+                return in.isRepeatOf(archive.messages[row]) ? answerAgain(row) : finishAnswer(94);
             }
             if (!blocks.hasRoom()) {
                 return finishAnswer(96);
@@ -1684,10 +1684,7 @@ public final class PaymentSwitch {
             return response;
         }
 
-        private int answerAgain(int row, Bytes in) {
-            if (!in.isRepeatOf(archive.messages[row])) {
-                return finishAnswer(94);
-            }
+        private int answerAgain(int row) {
             last.copy(archive.answers[row]);
             return archive.responses[row];
         }

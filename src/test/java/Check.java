@@ -13,11 +13,11 @@ final class Check {
         }
     }
 
+    // Spaces are there for the reader alone.
     void text(String what, String got, String due) {
-        String bare = due.replace(" ", "");
-        if (!got.equals(bare)) {
+        if (!got.replace(" ", "").equals(due.replace(" ", ""))) {
             wrong++;
-            System.out.println(what + ": " + got + ", due is " + bare);
+            System.out.println(what + ": " + got + ", due is " + due);
         }
     }
 
