@@ -44,6 +44,13 @@ public final class AuditTest {
         CHECK.same("FREE is below 0", x.audit(), 1);
         add(account(x, 1), "balance", -6001);
         CHECK.same("twice", x.audit(), 2);
+        PaymentSwitch y = new PaymentSwitch(4);
+        y.issuer(0);
+        y.account(0, -100, -40);
+        y.open();
+        CHECK.same("60 below its minimum, as told", y.audit(), 0);
+        add(account(y, 0), "balance", -1);
+        CHECK.same("61 below it", y.audit(), 1);
     }
 
     private static void freeToldBelowZero() throws ReflectiveOperationException {

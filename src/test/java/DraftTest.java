@@ -35,6 +35,8 @@ public final class DraftTest {
         x.digits(11, 1);
         x.message(9876);
         CHECK.text("a type, and no fields", composed(x), "9876 0000000000000000");
+        x.message(1000);
+        CHECK.text("type 1000", composed(x), "1000 0000000000000000");
         x.message(0);
         CHECK.text("type 0", composed(x), "0000 0000000000000000");
     }

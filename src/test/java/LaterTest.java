@@ -19,6 +19,7 @@ public final class LaterTest {
         whenCut();
         cutoff();
         forgotten();
+        nothingStaysOfTheForgotten();
         CHECK.end();
     }
 
@@ -333,6 +334,37 @@ public final class LaterTest {
         x.cutoff();
         CHECK.same("comes to what is settled", x.acquired(0, 1), 885);
         CHECK.same("of the issuer, too", x.issued(0, 1), -890);
+    }
+
+    private static void nothingStaysOfTheForgotten() {
+        PaymentSwitch x = Fixture.opened(30);
+        Fixture.done(x, 100);
+        x.charge(1, 70);
+        x.represent(1);
+        x.decide(1, false);
+        CHECK.same("forgotten", x.cutoff(), 1);
+        x.message(420);
+        x.digits(2, 5);
+        x.digits(11, 9);
+        x.digits(32, 1);
+        x.letters(37, 3, 0);
+        x.original(0, 0, 0);
+        x.compose();
+        x.send();
+        long[] due = {2, 0, 0, 0, -1, -1, 1, 9, 0, 0, -1};
+        for (int what = 0; what < due.length; what++) {
+            CHECK.same("payment(2, " + what + ")", x.payment(2, what), due[what]);
+        }
+        Fixture.undo(x, 2, 10, 0);
+        x.cutoff();
+        Fixture.ask(x, 11, 0, 100);
+        CHECK.same("nothing is cleared", x.payment(3, 2), 0);
+        CHECK.same("undone", Fixture.undo(x, 3, 12, 0), 0);
+        Fixture.ask(x, 13, 0, 100);
+        CHECK.same("forgotten, not the one that is HELD", x.cutoff(), 1);
+        x.ask(0, 1, 14, 2, 55, 0, 14);
+        x.send();
+        CHECK.same("each is itself", x.payment(4, 1) * 1000 + x.payment(5, 1), 100055);
     }
 
     private static void forgotten() {

@@ -18,6 +18,7 @@ public final class SendTest {
         journalIsFull();
         refusedRequests();
         routesOfRequests();
+        rowsThatBeginWithZero();
         manyApprovals();
         sixtyPayments();
         amounts();
@@ -27,6 +28,8 @@ public final class SendTest {
         reversalsRefused();
         originals();
         advices();
+        approvalsToTheBase36();
+        leastAmounts();
         totals();
         CHECK.end();
     }
@@ -384,6 +387,23 @@ public final class SendTest {
         CHECK.same("19 digits", x.send(), 14);
     }
 
+    private static void rowsThatBeginWithZero() {
+        PaymentSwitch x = Fixture.told(30);
+        x.route(0, 0, 1);
+        x.open();
+        String front = "0100 7020000108808000";
+        String rest = "01 00" + Fixture.hexOf("000000000009") + TERMINAL + "0978";
+        Fixture.tape(x, front + "13 00410000000019 000000 000000000005 000001" + rest);
+        CHECK.same("a 0 in front has a route, but is no card", x.send(), 14);
+        Fixture.tape(x, front + "01 00 000000 000000000005 000002" + rest);
+        CHECK.same("a 0 alone, too", x.send(), 14);
+        Fixture.tape(x, front + "12 410000000019 000000 000000000005 000003" + rest);
+        CHECK.same("the card itself", x.send(), 0);
+        Fixture.tape(x, "0220 702000010C008000 13 00410000000019 000000 000000000005 000004 01 00"
+                + Fixture.hexOf("000000000009") + Fixture.hexOf("000001") + "0978");
+        CHECK.same("a 0 in front makes another card for 220", x.send(), 12);
+    }
+
     private static void manyApprovals() {
         PaymentSwitch x = Fixture.opened(30, 5, 10, 5, 3);
         Fixture.ask(x, 1, 0, 1);
@@ -623,6 +643,49 @@ public final class SendTest {
         x.letters(37, 1, 0);
         CHECK.same("a forgotten key is free", sent(x), 0);
         CHECK.same("with the next number", x.payment(2, 0), 1);
+    }
+
+    private static void approvalsToTheBase36() {
+        PaymentSwitch x = Fixture.opened(30);
+        for (int i = 1; i <= 40; i++) {
+            advise(x, i);
+            if (i % 20 == 0) {
+                x.checkpoint();
+            }
+        }
+        x.ask(0, 1, 1, 0, 100, 0, 1);
+        x.send();
+        CHECK.text("payment 41", Fixture.answerOf(x), "0110 502000010E808000 12 410000000019 000000000100 000001 01 01"
+                + REF_1 + Fixture.hexOf("000015") + Fixture.hexOf("00") + TERMINAL + "0978");
+        x.present(41, 2, 50, 1);
+        x.approval(5);
+        CHECK.same("APPROVAL 5", sent(x), 12);
+        x.present(41, 3, 50, 1);
+        x.approval(41 + 36 * 36);
+        CHECK.same("APPROVAL 1337", sent(x), 12);
+        CHECK.same("APPROVAL 41", Fixture.present(x, 41, 4, 50, 1), 0);
+    }
+
+    private static void leastAmounts() {
+        PaymentSwitch x = new PaymentSwitch(30);
+        x.acquirer(1);
+        x.issuer(0);
+        x.route(0, 41, 2);
+        x.account(0, 2, 0);
+        x.card(Fixture.CARD_0, 0);
+        x.open();
+        CHECK.same("one of two", Fixture.ask(x, 1, 0, 1), 0);
+        x.ask(0, 0, 2, 0, 2, 1, 2);
+        CHECK.same("the other one", x.send(), 10);
+        Fixture.present(x, 1, 3, 1, 0);
+        // 1 * 1 / 10000, up, is all of it.
+        CHECK.same("acquirer", x.acquired(0, 0), 0);
+        CHECK.same("issuer", x.issued(0, 0), -1);
+        CHECK.same("switch", x.issued(6, 0), 1);
+        PaymentSwitch y = Fixture.opened(30);
+        Fixture.ask(y, 1, 0, 2);
+        CHECK.same("one is left", Fixture.undo(y, 1, 2, 1), 0);
+        CHECK.same("it is held", y.payment(1, 1), 1);
     }
 
     private static void totals() {
