@@ -524,6 +524,12 @@ public final class SendTest {
         x.present(1, 4, 0, 1);
         x.digits(2, Fixture.CARD_1);
         CHECK.same("another CARD, ahead of 13", sent(x), 12);
+        x.present(1, 15, 50, 1);
+        x.digits(2, Fixture.CARD_0 * 10);
+        CHECK.same("a CARD that goes on", sent(x), 12);
+        x.present(1, 16, 50, 1);
+        x.digits(2, Fixture.CARD_0 / 10);
+        CHECK.same("a CARD that ends before", sent(x), 12);
         x.present(1, 5, 50, 1);
         x.approval(2);
         CHECK.same("another APPROVAL", sent(x), 12);
@@ -647,23 +653,24 @@ public final class SendTest {
 
     private static void approvalsToTheBase36() {
         PaymentSwitch x = Fixture.opened(30);
-        for (int i = 1; i <= 40; i++) {
+        for (int i = 1; i <= 71; i++) {
             advise(x, i);
             if (i % 20 == 0) {
+                x.cutoff();
                 x.checkpoint();
             }
         }
         x.ask(0, 1, 1, 0, 100, 0, 1);
         x.send();
-        CHECK.text("payment 41", Fixture.answerOf(x), "0110 502000010E808000 12 410000000019 000000000100 000001 01 01"
-                + REF_1 + Fixture.hexOf("000015") + Fixture.hexOf("00") + TERMINAL + "0978");
-        x.present(41, 2, 50, 1);
-        x.approval(5);
-        CHECK.same("APPROVAL 5", sent(x), 12);
-        x.present(41, 3, 50, 1);
-        x.approval(41 + 36 * 36);
-        CHECK.same("APPROVAL 1337", sent(x), 12);
-        CHECK.same("APPROVAL 41", Fixture.present(x, 41, 4, 50, 1), 0);
+        CHECK.text("payment 72", Fixture.answerOf(x), "0110 502000010E808000 12 410000000019 000000000100 000001 01 01"
+                + REF_1 + Fixture.hexOf("000020") + Fixture.hexOf("00") + TERMINAL + "0978");
+        x.present(72, 2, 50, 1);
+        x.approval(36);
+        CHECK.same("APPROVAL 36", sent(x), 12);
+        x.present(72, 3, 50, 1);
+        x.approval(72 + 36 * 36);
+        CHECK.same("APPROVAL 1368", sent(x), 12);
+        CHECK.same("APPROVAL 72", Fixture.present(x, 72, 4, 50, 1), 0);
     }
 
     private static void leastAmounts() {

@@ -93,6 +93,8 @@ public final class TapeTest {
         fault("AA", 1, 1);
         fault("0800", 1, 2);
         fault("0800 FFFFFFFFFFFFFF", 1, 9);
+        fault("0800 00000000000000", 1, 9);
+        fault("0800 40000000000000", 1, 9);
         fault("0800 8000000000000000", 1, 10);
         fault("0800 FFFFFFFFFFFFFFFF FF", 1, 11);
         fault("0800 0020000000000000 FFFF", 1, 12);
