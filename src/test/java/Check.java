@@ -5,19 +5,23 @@ final class Check {
     }
 
     private int wrong;
+    private String subject = "";
+
+    /** What stands in front of all that is printed from now on. */
+    void about(String newSubject) {
+        subject = newSubject;
+    }
 
     void same(String what, long got, long due) {
         if (got != due) {
-            wrong++;
-            System.out.println(what + ": " + got + ", due is " + due);
+            tell(what + ": " + got + ", due is " + due);
         }
     }
 
     // Spaces are there for the reader alone.
     void text(String what, String got, String due) {
         if (!got.replace(" ", "").equals(due.replace(" ", ""))) {
-            wrong++;
-            System.out.println(what + ": " + got + ", due is " + due);
+            tell(what + ": " + got + ", due is " + due);
         }
     }
 
@@ -45,9 +49,13 @@ final class Check {
             got = e.getClass().getSimpleName();
         }
         if (!got.equals(due)) {
-            wrong++;
-            System.out.println(what + " throws " + got + ", due is " + due);
+            tell(what + " throws " + got + ", due is " + due);
         }
+    }
+
+    private void tell(String text) {
+        wrong++;
+        System.out.println(subject + text);
     }
 
     void end() {

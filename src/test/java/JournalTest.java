@@ -3,7 +3,6 @@ public final class JournalTest {
     private static final Check CHECK = new Check();
 
     public static void main(String[] args) {
-        snapshotSizes();
         snapshotsEmptyTheJournal();
         wrongStates();
         crashBounds();
@@ -16,27 +15,6 @@ public final class JournalTest {
         thirtyRecoveries();
         whatStaysBehindRecovery();
         CHECK.end();
-    }
-
-    private static void snapshotSizes() {
-        for (int accounts = 0; accounts <= 64; accounts++) {
-            PaymentSwitch x = new PaymentSwitch(4);
-            x.issuer(0);
-            for (int i = 0; i < accounts; i++) {
-                x.account(0, 0, 0);
-            }
-            x.open();
-            CHECK.same("blocks for " + accounts + " accounts", x.checkpoint(), (accounts + 7) / 8 + 1);
-        }
-        PaymentSwitch x = Fixture.opened(30, 100, 1, 20, 8);
-        for (int i = 1; i <= 30; i++) {
-            int answers = Math.min(24, i);
-            CHECK.same("ask " + i, Fixture.ask(x, i, 0, 1), 0);
-            CHECK.same("blocks for " + i, x.checkpoint(), 1 + (i + 3) / 4 + (answers + 1) / 2 + 1);
-            if (i % 8 == 0) {
-                x.ticks(2);
-            }
-        }
     }
 
     private static void snapshotsEmptyTheJournal() {

@@ -5,7 +5,6 @@ public final class LaterTest {
     public static void main(String[] args) {
         ticks();
         wrongTicks();
-        lastTime();
         holdsEnd();
         disputesEnd();
         block();
@@ -42,24 +41,6 @@ public final class LaterTest {
         x.crash(0);
         CHECK.badState("ticks when DOWN", () -> x.ticks(1));
         CHECK.badArgument("ticks(1001) when DOWN", () -> x.ticks(1001));
-    }
-
-    private static void lastTime() {
-        PaymentSwitch x = Fixture.opened(30);
-        for (int i = 1; i <= 1000; i++) {
-            if (x.count(2) == 30) {
-                x.checkpoint();
-            }
-            if (i == 1000) {
-                CHECK.same("all but one", x.ticks(999), 999999);
-                CHECK.badState("beyond the last time", () -> x.ticks(2));
-                CHECK.same("the last time", x.ticks(1), 1000000);
-                CHECK.badState("behind the last time", () -> x.ticks(1));
-                CHECK.badArgument("an argument is asked first", () -> x.ticks(0));
-            } else {
-                x.ticks(1000);
-            }
-        }
     }
 
     private static void holdsEnd() {

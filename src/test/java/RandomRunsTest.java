@@ -7,6 +7,8 @@ import java.util.Random;
 public final class RandomRunsTest {
     private static final Check CHECK = new Check();
     private static final long THROWN = Long.MIN_VALUE;
+    // So few that an object has less than 512 calls, those that tell its state at the end with them.
+    private static final int STEPS = 45;
     private static final int[] EDGES = {-2, -1, 0, 1, 2, 3, 5, 6, 7, 8, 12, 60, 100, 400, 999, 1000, 1001, 9999,
         10000, 999999, 1000000, 1000000001, Integer.MAX_VALUE, Integer.MIN_VALUE};
 
@@ -28,7 +30,7 @@ public final class RandomRunsTest {
     }
 
     public static void main(String[] args) {
-        for (int seed = 1; seed <= 150; seed++) {
+        for (int seed = 1; seed <= 800; seed++) {
             new RandomRunsTest(seed).run("run " + seed);
         }
         for (int seed = 1; seed <= 100; seed++) {
@@ -38,31 +40,37 @@ public final class RandomRunsTest {
     }
 
     private void run(String name) {
-        for (int i = 0; i < 200; i++) {
+        for (int i = 0; i < STEPS; i++) {
             if (random.nextInt(12) == 0) {
                 checkpoint(name);
             } else {
-                int[] drawn = draw();
-                boolean fails = failures < 30 && random.nextInt(8) == 0;
-                if (fails) {
-                    shaky.crash(1);
-                }
-                long due = call(steady, drawn);
-                long got = call(shaky, drawn);
-                if (shaky.isDown()) {
-                    CHECK.same(name + ", cut", got, PaymentSwitch.CUT);
-                    CHECK.same(name + ", no answer", drawn[0] <= 5 ? shaky.size() : 0, 0);
-                    shaky.recover();
-                    failures++;
-                    got = drawn[0] <= 5 ? shaky.send() : due;
-                } else if (fails) {
-                    shaky.crash(PaymentSwitch.NONE);
-                }
-                CHECK.same(name + ", call " + i, got, due);
-                CHECK.text(name + ", answer", Fixture.answerOf(shaky), Fixture.answerOf(steady));
+                step(name + ", call " + i);
             }
-            compare(name + ", behind call " + i);
         }
+        CHECK.text(name + ", state", told(shaky), told(steady));
+        CHECK.same(name + ", audit", steady.audit(), 0);
+    }
+
+    private void step(String name) {
+        int[] drawn = draw();
+        boolean isMessage = drawn[0] <= 5;
+        boolean fails = failures < 30 && random.nextInt(8) == 0;
+        if (fails) {
+            shaky.crash(1);
+        }
+        long due = call(steady, drawn);
+        long got = call(shaky, drawn);
+        if (shaky.isDown()) {
+            CHECK.same(name + ", cut", got, PaymentSwitch.CUT);
+            CHECK.same(name + ", no answer", isMessage ? shaky.size() : 0, 0);
+            shaky.recover();
+            failures++;
+            got = isMessage ? shaky.send() : due;
+        } else if (fails) {
+            shaky.crash(PaymentSwitch.NONE);
+        }
+        CHECK.same(name, got, due);
+        CHECK.same(name + ", size of the answer", shaky.size(), steady.size());
     }
 
     private void checkpoint(String name) {
@@ -88,6 +96,11 @@ public final class RandomRunsTest {
         if (n == blocks) {
             steady.checkpoint();
         }
+    }
+
+    // Blocks of snapshots that were cut are written, too, so just that number can differ.
+    private static String told(PaymentSwitch x) {
+        return Picture.of(x).replaceAll("count 0 3 .*\n", "");
     }
 
     private int[] draw() {
@@ -133,46 +146,13 @@ public final class RandomRunsTest {
         }
     }
 
-    private static long told(PaymentSwitch x, int number, int what) {
-        try {
-            return x.payment(number, what);
-        } catch (IllegalArgumentException e) {
-            return THROWN;
-        }
-    }
-
-    private void compare(String name) {
-        for (int what = 0; what < 6; what++) {
-            if (what != 3) {
-                CHECK.same(name + ", count(" + what + ")", shaky.count(what), steady.count(what));
-            }
-        }
-        for (int i = 0; i < 20; i++) {
-            CHECK.same(name + ", funds", shaky.funds(i / 5, i % 5), steady.funds(i / 5, i % 5));
-        }
-        for (int i = 0; i < 8; i++) {
-            CHECK.same(name + ", acquired", shaky.acquired(i / 4, i % 4), steady.acquired(i / 4, i % 4));
-        }
-        for (int i = 0; i < 3; i++) {
-            CHECK.same(name + ", issued", shaky.issued(i, 0), steady.issued(i, 0));
-            CHECK.same(name + ", settled", shaky.issued(i, 1), steady.issued(i, 1));
-        }
-        for (int number = 1; number < steady.count(4); number++) {
-            for (int what = 0; what < 11; what++) {
-                CHECK.same(name + ", payment", told(shaky, number, what), told(steady, number, what));
-            }
-        }
-        CHECK.same(name + ", audit", steady.audit(), 0);
-        CHECK.same(name + ", audit behind recovery", shaky.audit(), 0);
-    }
-
     private int any() {
         return random.nextInt(4) == 0 ? EDGES[random.nextInt(EDGES.length)] : random.nextInt(8);
     }
 
     private void runWild() {
         PaymentSwitch x = random.nextInt(4) == 0 ? new PaymentSwitch(any()) : Fixture.told(any());
-        for (int i = 0; i < 500; i++) {
+        for (int i = 0; i < 480; i++) {
             try {
                 wild(x, random.nextInt(41));
             } catch (IllegalArgumentException | IllegalStateException e) {

@@ -8,7 +8,6 @@ public final class SendTest {
         states();
         answersHaveTheirFields();
         lastAnswer();
-        form();
         network();
         noSuchAcquirer();
         repeated();
@@ -20,15 +19,12 @@ public final class SendTest {
         routesOfRequests();
         rowsThatBeginWithZero();
         manyApprovals();
-        sixtyPayments();
         amounts();
         presentments();
         presentmentsRefused();
         reversals();
         reversalsRefused();
-        originals();
         advices();
-        approvalsToTheBase36();
         leastAmounts();
         totals();
         CHECK.end();
@@ -112,100 +108,23 @@ public final class SendTest {
         CHECK.same("then it has", x.size(), 58);
     }
 
-    private static int sent(PaymentSwitch x) {
-        x.compose();
-        return x.send();
-    }
-
-    private static void form() {
-        PaymentSwitch x = Fixture.opened(30);
-        int[] answers = {110, 230, 410, 430, 510, 810};
-        for (int type : answers) {
-            Fixture.tape(x, String.format("%04d", type) + "0020000000000000 000007");
-            CHECK.same("an answer of type " + type, x.send(), 30);
-            CHECK.text("its answer", Fixture.answerOf(x), String.format("%04d", type) + "0020000002000000 000007 3330");
-        }
-        int[] asked = {2, 3, 4, 11, 32, 37, 41, 49};
-        for (int field : asked) {
-            x.ask(field % 2, 0, 1, 0, 1, 0, 1);
-            x.omit(field);
-            CHECK.same("100 without " + field, sent(x), 30);
-        }
-        int[] more = {38, 39, 70, 74, 86, 90, 95};
-        for (int field : more) {
-            x.ask(0, 0, 1, 0, 1, 0, 1);
-            put(x, field);
-            CHECK.same("100 with " + field, sent(x), 30);
-        }
-        CHECK.same("nothing is kept", x.count(1) + x.count(3), 0);
-        x.ask(0, 0, 1, 0, 1, 0, 1);
-        x.letters(54, 5, 3);
-        CHECK.same("100 with a NOTE", sent(x), 0);
-        formOfOthers(x);
-        CHECK.same("nothing else was written", x.count(3), 1);
-    }
-
-    private static void put(PaymentSwitch x, int field) {
-        if (field == 37 || field == 38 || field == 39 || field == 41) {
-            x.letters(field, 0, 0);
-        } else if (field == 54) {
-            x.letters(field, 0, 1);
-        } else {
-            x.digits(field, 0);
-        }
-    }
-
-    private static void formOfOthers(PaymentSwitch x) {
-        int[] presented = {2, 3, 4, 11, 32, 37, 38, 49};
-        for (int field : presented) {
-            x.present(1, 2, 1, 0);
-            x.omit(field);
-            CHECK.same("220 without " + field, sent(x), 30);
-        }
-        x.present(1, 2, 1, 0);
-        x.letters(54, 0, 1);
-        CHECK.same("220 with a NOTE", sent(x), 30);
-        int[] undone = {2, 11, 32, 37, 90};
-        for (int field : undone) {
-            x.undo(1, field % 2 == 0, 2, 1);
-            x.omit(field);
-            CHECK.same("400 without " + field, sent(x), 30);
-        }
-        x.undo(1, true, 2, 1);
-        x.digits(4, 1);
-        CHECK.same("420 with AMOUNT", sent(x), 30);
-        CHECK.text("its answer has AMOUNT", Fixture.answerOf(x), "0430 502000010A000000 12 410000000019 000000000001"
-                + "000002 01 00" + REF_1 + Fixture.hexOf("30"));
-        int[] totalled = {11, 32, 74, 86};
-        for (int field : totalled) {
-            x.total(0, 2);
-            x.omit(field);
-            CHECK.same("500 without " + field, sent(x), 30);
-        }
-        x.total(0, 2);
-        x.digits(49, 978);
-        CHECK.same("500 with CURRENCY", sent(x), 30);
-        CHECK.text("its answer has no COUNT", Fixture.answerOf(x), "0510 0020000102008000 000002 01 00"
-                + Fixture.hexOf("30") + "0978");
-    }
-
     private static void network() {
         PaymentSwitch x = Fixture.opened(4);
         x.message(800);
         x.digits(11, 1);
-        CHECK.same("800 without NETWORK", sent(x), 30);
+        CHECK.same("800 without NETWORK", Fixture.sent(x), 30);
         x.digits(70, 1);
-        CHECK.same("800", sent(x), 0);
-        CHECK.same("800 again", sent(x), 0);
+        CHECK.same("800", Fixture.sent(x), 0);
+        CHECK.same("800 again", Fixture.sent(x), 0);
         x.digits(70, 2);
-        CHECK.same("800 with the same TRACE", sent(x), 0);
+        CHECK.same("800 with the same TRACE", Fixture.sent(x), 0);
         CHECK.same("800 is not kept", x.count(1), 0);
         CHECK.same("800 is not written", x.count(3), 0);
         x.omit(11);
-        CHECK.same("800 without TRACE", sent(x), 30);
+        CHECK.same("800 without TRACE", Fixture.sent(x), 30);
         x.digits(11, 1);
         x.digits(32, 0);
-        CHECK.same("800 with ACQUIRER", sent(x), 30);
+        CHECK.same("800 with ACQUIRER", Fixture.sent(x), 30);
     }
 
     private static void noSuchAcquirer() {
@@ -213,12 +132,12 @@ public final class SendTest {
         x.ask(0, 2, 1, 0, 1, 0, 1);
         CHECK.same("acquirer 2", x.send(), 3);
         x.digits(32, 99999999999L);
-        CHECK.same("acquirer 99999999999", sent(x), 3);
+        CHECK.same("acquirer 99999999999", Fixture.sent(x), 3);
         x.digits(32, 4294967296L);
-        CHECK.same("acquirer 2^32", sent(x), 3);
+        CHECK.same("acquirer 2^32", Fixture.sent(x), 3);
         CHECK.same("nothing is kept", x.count(1) + x.count(3), 0);
         x.digits(32, 1);
-        CHECK.same("acquirer 1", sent(x), 0);
+        CHECK.same("acquirer 1", Fixture.sent(x), 0);
         CHECK.same("of the payment", x.payment(1, 6), 1);
     }
 
@@ -344,22 +263,22 @@ public final class SendTest {
         Fixture.ask(x, 1, 0, 100);
         x.ask(0, 0, 2, 0, 0, 0, 1);
         x.digits(49, 840);
-        CHECK.same("94 is ahead of 12", sent(x), 94);
+        CHECK.same("94 is ahead of 12", Fixture.sent(x), 94);
         x.ask(0, 0, 3, 0, 0, 0, 3);
         x.digits(49, 840);
-        CHECK.same("12 is ahead of 13", sent(x), 12);
+        CHECK.same("12 is ahead of 13", Fixture.sent(x), 12);
         x.ask(0, 0, 4, 0, 0, 0, 4);
         x.digits(2, 600000000015L);
-        CHECK.same("13 is ahead of 92", sent(x), 13);
+        CHECK.same("13 is ahead of 92", Fixture.sent(x), 13);
         x.ask(0, 0, 5, 0, 1, 0, 5);
         x.digits(2, 600000000016L);
-        CHECK.same("92 is ahead of 14", sent(x), 92);
+        CHECK.same("92 is ahead of 14", Fixture.sent(x), 92);
         x.ask(0, 0, 6, 0, 1, 0, 6);
         x.digits(2, 410000000018L);
-        CHECK.same("not GOOD", sent(x), 14);
+        CHECK.same("not GOOD", Fixture.sent(x), 14);
         x.digits(11, 7);
         x.digits(2, 41000000000000004L);
-        CHECK.same("no such card", sent(x), 14);
+        CHECK.same("no such card", Fixture.sent(x), 14);
         x.ask(0, 0, 8, 1, 100000, 0, 8);
         CHECK.same("62 is ahead of 51", x.send(), 62);
         CHECK.same("no payment came", x.count(0), 1);
@@ -375,10 +294,10 @@ public final class SendTest {
         PaymentSwitch x = Fixture.opened(30);
         x.ask(0, 0, 1, 0, 1, 0, 1);
         x.digits(2, 4);
-        CHECK.same("less digits than a route", sent(x), 92);
+        CHECK.same("less digits than a route", Fixture.sent(x), 92);
         x.digits(2, 41);
         x.digits(11, 2);
-        CHECK.same("as many", sent(x), 14);
+        CHECK.same("as many", Fixture.sent(x), 14);
         String rest = "000000 000000000005 000003 01 00" + Fixture.hexOf("000000000009") + TERMINAL + "0978";
         Fixture.tape(x, "0100 7020000108808000 13 00410000000019" + rest);
         CHECK.same("a 0 in front makes another card", x.send(), 92);
@@ -426,37 +345,6 @@ public final class SendTest {
         x.ticks(1);
         CHECK.same("more", x.funds(0, 4), 2);
         CHECK.same("approved again", Fixture.ask(x, 10, 0, 1), 0);
-    }
-
-    private static void sixtyPayments() {
-        PaymentSwitch x = Fixture.opened(30);
-        for (int i = 1; i <= 60; i++) {
-            advise(x, i);
-            if (i % 20 == 0) {
-                x.checkpoint();
-            }
-        }
-        CHECK.same("60 payments", x.count(0), 60);
-        advise(x, 61);
-        CHECK.same("no more by advice", x.count(0), 60);
-        CHECK.same("no number went", x.count(4), 61);
-        CHECK.same("96 is ahead of 51", Fixture.ask(x, 100, 0, 99999), 96);
-        x.block(0, true);
-        CHECK.same("62 is ahead of 96", Fixture.ask(x, 101, 0, 99999), 62);
-        CHECK.same("forgotten", x.cutoff(), 60);
-        x.block(0, false);
-        CHECK.same("then there is room", Fixture.ask(x, 102, 0, 1), 0);
-        CHECK.same("numbers go on", x.payment(61, 1), 1);
-    }
-
-    private static void advise(PaymentSwitch x, int trace) {
-        x.message(420);
-        x.digits(2, 5);
-        x.digits(11, trace);
-        x.digits(32, 0);
-        x.letters(37, trace, 0);
-        x.original(0, 0, 0);
-        CHECK.same("an advice of what is not known", sent(x), 25);
     }
 
     private static void amounts() {
@@ -517,27 +405,27 @@ public final class SendTest {
         Fixture.ask(x, 1, 0, 100);
         x.present(1, 2, 50, 1);
         x.digits(32, 1);
-        CHECK.same("another acquirer", sent(x), 25);
+        CHECK.same("another acquirer", Fixture.sent(x), 25);
         x.present(1, 3, 50, 1);
         x.letters(37, 5, 0);
-        CHECK.same("another reference", sent(x), 25);
+        CHECK.same("another reference", Fixture.sent(x), 25);
         x.present(1, 4, 0, 1);
         x.digits(2, Fixture.CARD_1);
-        CHECK.same("another CARD, ahead of 13", sent(x), 12);
+        CHECK.same("another CARD, ahead of 13", Fixture.sent(x), 12);
         x.present(1, 15, 50, 1);
         x.digits(2, Fixture.CARD_0 * 10);
-        CHECK.same("a CARD that goes on", sent(x), 12);
+        CHECK.same("a CARD that goes on", Fixture.sent(x), 12);
         x.present(1, 16, 50, 1);
         x.digits(2, Fixture.CARD_0 / 10);
-        CHECK.same("a CARD that ends before", sent(x), 12);
+        CHECK.same("a CARD that ends before", Fixture.sent(x), 12);
         x.present(1, 5, 50, 1);
         x.approval(2);
-        CHECK.same("another APPROVAL", sent(x), 12);
+        CHECK.same("another APPROVAL", Fixture.sent(x), 12);
         CHECK.same("AMOUNT 0", Fixture.present(x, 1, 6, 0, 1), 13);
         CHECK.same("AMOUNT above", Fixture.present(x, 1, 7, 101, 1), 13);
         x.present(1, 8, 10, 1);
         x.digits(49, 840);
-        CHECK.same("CURRENCY is not asked", sent(x), 0);
+        CHECK.same("CURRENCY is not asked", Fixture.sent(x), 0);
         CHECK.same("what is held became less", Fixture.present(x, 1, 9, 91, 1), 13);
         CHECK.same("and is cleared", Fixture.present(x, 1, 10, 90, 1), 0);
         CHECK.same("DONE", Fixture.present(x, 1, 11, 1, 1), 12);
@@ -565,7 +453,7 @@ public final class SendTest {
         Fixture.ask(x, 5, 0, 1000);
         x.undo(2, true, 6, 0);
         x.digits(95, 0);
-        CHECK.same("REPLACEMENT 0", sent(x), 0);
+        CHECK.same("REPLACEMENT 0", Fixture.sent(x), 0);
         CHECK.same("RELEASED by advice", x.payment(2, 0), 2);
         Fixture.ask(x, 7, 0, 1000);
         x.undo(3, true, 8, 1001);
@@ -580,14 +468,14 @@ public final class SendTest {
         Fixture.ask(x, 1, 0, 1000);
         x.undo(1, false, 2, 0);
         x.letters(37, 9, 0);
-        CHECK.same("no such key", sent(x), 25);
+        CHECK.same("no such key", Fixture.sent(x), 25);
         CHECK.same("400 makes no payment", x.count(0), 1);
         x.undo(1, false, 3, 0);
         x.digits(2, Fixture.CARD_1);
-        CHECK.same("another CARD", sent(x), 12);
+        CHECK.same("another CARD", Fixture.sent(x), 12);
         x.undo(1, false, 4, 0);
         x.original(100, 2, 0);
-        CHECK.same("another ORIGINAL", sent(x), 12);
+        CHECK.same("another ORIGINAL", Fixture.sent(x), 12);
         Fixture.present(x, 1, 5, 1, 1);
         CHECK.same("HELD, something is cleared", Fixture.undo(x, 1, 6, 0), 12);
         Fixture.present(x, 1, 7, 1, 0);
@@ -596,29 +484,10 @@ public final class SendTest {
         Fixture.undo(x, 2, 10, 0);
         x.undo(2, false, 11, 0);
         x.original(1, 1, 1);
-        CHECK.same("ORIGINAL of what is RELEASED is not asked", sent(x), 0);
+        CHECK.same("ORIGINAL of what is RELEASED is not asked", Fixture.sent(x), 0);
         x.undo(2, false, 12, 0);
         x.digits(2, Fixture.CARD_1);
-        CHECK.same("its CARD is", sent(x), 12);
-    }
-
-    private static void originals() {
-        PaymentSwitch x = Fixture.opened(30);
-        x.ask(0, 1, 654321, 0, 1000, 0, 1);
-        x.send();
-        String good = "0100 654321 0000000000 00000000001 00000000000".replace(" ", "");
-        for (int i = 0; i < 42; i++) {
-            char other = good.charAt(i) == '0' ? '1' : '0';
-            String wrong = good.substring(0, i) + other + good.substring(i + 1);
-            Fixture.tape(x, "0400 C020000108000000 0000004000000000 12 410000000019"
-                    + String.format("%06d", i) + "01 01" + REF_1 + wrong);
-            CHECK.same("ORIGINAL with another digit " + i, x.send(), 12);
-            if (i % 20 == 19) {
-                x.checkpoint();
-            }
-        }
-        Fixture.tape(x, "0400 C020000108000000 0000004000000000 12 410000000019 000099 01 01" + REF_1 + good);
-        CHECK.same("ORIGINAL", x.send(), 0);
+        CHECK.same("its CARD is", Fixture.sent(x), 12);
     }
 
     private static void advices() {
@@ -629,7 +498,7 @@ public final class SendTest {
         x.digits(32, 1);
         x.letters(37, 1, 0);
         x.original(0, 0, 0);
-        CHECK.same("421 of what is not known", sent(x), 25);
+        CHECK.same("421 of what is not known", Fixture.sent(x), 25);
         CHECK.same("a payment comes", x.count(0), 1);
         CHECK.same("RELEASED", x.payment(1, 0), 2);
         CHECK.same("of no account", x.payment(1, 5), -1);
@@ -639,7 +508,7 @@ public final class SendTest {
         CHECK.same("never DONE", x.payment(1, 4), -1);
         x.ask(0, 1, 6, 0, 5, 0, 1);
         x.letters(37, 1, 0);
-        CHECK.same("its key is used", sent(x), 94);
+        CHECK.same("its key is used", Fixture.sent(x), 94);
         x.undo(1, false, 7, 0);
         CHECK.same("undone already", x.send(), 0);
         CHECK.same("the next number", x.count(4), 2);
@@ -647,40 +516,12 @@ public final class SendTest {
         x.cutoff();
         x.ask(0, 1, 8, 0, 5, 0, 1);
         x.letters(37, 1, 0);
-        CHECK.same("a forgotten key is free", sent(x), 0);
+        CHECK.same("a forgotten key is free", Fixture.sent(x), 0);
         CHECK.same("with the next number", x.payment(2, 0), 1);
     }
 
-    private static void approvalsToTheBase36() {
-        PaymentSwitch x = Fixture.opened(30);
-        for (int i = 1; i <= 71; i++) {
-            advise(x, i);
-            if (i % 20 == 0) {
-                x.cutoff();
-                x.checkpoint();
-            }
-        }
-        x.ask(0, 1, 1, 0, 100, 0, 1);
-        x.send();
-        CHECK.text("payment 72", Fixture.answerOf(x), "0110 502000010E808000 12 410000000019 000000000100 000001 01 01"
-                + REF_1 + Fixture.hexOf("000020") + Fixture.hexOf("00") + TERMINAL + "0978");
-        x.present(72, 2, 50, 1);
-        x.approval(36);
-        CHECK.same("APPROVAL 36", sent(x), 12);
-        x.present(72, 3, 50, 1);
-        x.approval(72 + 36 * 36);
-        CHECK.same("APPROVAL 1368", sent(x), 12);
-        CHECK.same("APPROVAL 72", Fixture.present(x, 72, 4, 50, 1), 0);
-    }
-
     private static void leastAmounts() {
-        PaymentSwitch x = new PaymentSwitch(30);
-        x.acquirer(1);
-        x.issuer(0);
-        x.route(0, 41, 2);
-        x.account(0, 2, 0);
-        x.card(Fixture.CARD_0, 0);
-        x.open();
+        PaymentSwitch x = Fixture.single(1, 0, 2, 0);
         CHECK.same("one of two", Fixture.ask(x, 1, 0, 1), 0);
         x.ask(0, 0, 2, 0, 2, 1, 2);
         CHECK.same("the other one", x.send(), 10);
@@ -700,12 +541,12 @@ public final class SendTest {
         Fixture.done(x, 500);
         x.total(0, 3);
         x.digits(74, 2);
-        CHECK.same("another COUNT", sent(x), 95);
+        CHECK.same("another COUNT", Fixture.sent(x), 95);
         CHECK.text("those of the batch are answered", Fixture.answerOf(x), "0510 8020000102000000 0040040000000000"
                 + "000003 01 00" + Fixture.hexOf("95") + "0000000001 0000000000000500");
         x.total(0, 4);
         x.digits(86, 501);
-        CHECK.same("another SUM", sent(x), 95);
+        CHECK.same("another SUM", Fixture.sent(x), 95);
         CHECK.same("the batch stays", x.acquired(0, 2), 1);
         x.total(0, 5);
         x.spoil(1, 1);

@@ -174,28 +174,13 @@ public final class TableTest {
         CHECK.same("18 digits", PaymentSwitch.NOWHERE, x.card(100000000000000008L, 0));
     }
 
-    private static long goodNumber(long front) {
-        for (int last = 0; last < 10; last++) {
-            int sum = 0;
-            String digits = front + "" + last;
-            for (int i = 0; i < digits.length(); i++) {
-                int d = digits.charAt(digits.length() - 1 - i) - '0';
-                sum += i % 2 == 0 ? d : d * 2 / 10 + d * 2 % 10;
-            }
-            if (sum % 10 == 0) {
-                return front * 10 + last;
-            }
-        }
-        return 0;
-    }
-
     private static void hundredCards() {
         PaymentSwitch x = new PaymentSwitch(4);
         x.issuer(0);
         x.route(0, 7, 1);
         x.account(0, 0, 0);
         for (int i = 0; i < 100; i++) {
-            CHECK.same("card " + i, x.card(goodNumber(70000000000L + i * 7919), 0), i);
+            CHECK.same("card " + i, x.card(Fixture.good(70000000000L + i * 7919), 0), i);
         }
         CHECK.badState("card 101", () -> x.card(700000000005L, 0));
         CHECK.badState("card 101 is not asked whether it is GOOD", () -> x.card(700000000006L, 0));

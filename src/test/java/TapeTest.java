@@ -10,8 +10,6 @@ public final class TapeTest {
         shortFaults();
         everyFrontOfAMessageIsShort();
         digitFaults();
-        typeFaults();
-        mapFaults();
         lengthFaults();
         letterFaults();
         behindFaults();
@@ -133,41 +131,6 @@ public final class TapeTest {
         fault("0800 0000000000000400 1001 30", 2, 10);
         fault("0800 0000000000000400 000A 30", 2, 11);
         fault("0800 8000000000000000 0400000000000000 1301", 2, 18);
-    }
-
-    private static void typeFaults() {
-        int[] good = {100, 101, 110, 220, 221, 230, 400, 401, 410, 420, 421, 430, 500, 501, 510, 800, 810};
-        PaymentSwitch x = new PaymentSwitch(4);
-        int next = 0;
-        for (int type = 0; type <= 9999; type++) {
-            boolean known = next < good.length && good[next] == type;
-            next += known ? 1 : 0;
-            x.message(type);
-            x.compose();
-            CHECK.same("kind of type " + type, x.fault(0), known ? 0 : 3);
-            CHECK.same("place of type " + type, x.fault(1), known ? -1 : 0);
-        }
-        fault("0111", 3, 0);
-    }
-
-    private static void mapFaults() {
-        int[] known = {2, 3, 4, 11, 32, 37, 38, 39, 41, 49, 54, 70, 74, 86, 90, 95};
-        PaymentSwitch x = new PaymentSwitch(4);
-        int next = 0;
-        for (int k = 2; k <= 128; k++) {
-            boolean field = next < known.length && known[next] == k;
-            next += field ? 1 : 0;
-            Fixture.tape(x, k > 64 ? "0800 8000000000000000 0000000000000000" : "0800 0000000000000000");
-            x.spoil(2 + (k - 1) / 8, 128 >> (k - 1) % 8);
-            CHECK.same("kind with field " + k, x.fault(0), field ? 1 : 4);
-            CHECK.same("place with field " + k, x.fault(1), field ? x.trim(0) : 2 + (k - 1) / 8);
-        }
-        fault("0800 8000000000000000 0000000000000000", 4, 10);
-        fault("0800 8800000000000000 0000000000000000", 4, 2);
-        fault("0800 8020000000000000 0000000000000000", 4, 10);
-        fault("0800 8000000000000001 8000000000000000", 4, 9);
-        fault("0800 8000000000000000 8000000000000000", 4, 10);
-        fault("0800 8000000000000000 0000000000000001", 4, 17);
     }
 
     private static void lengthFaults() {
