@@ -180,6 +180,17 @@ public final class EdgeAnswerTest {
                 .replace(Fixture.hexOf("ABCDEFGHIJKL"), Fixture.hexOf("ABCDEFGHIJKL") + "3330"));
     }
 
+    @Sentence("RESPONSE, which is told here as a number (of two digits)")
+    static void responsesOfTwoDigits(Check check) {
+        PaymentSwitch x = Fixture.opened(4);
+        check.same("0", Wire.totals(500, 0, 1).send(x), 0);
+        check.text("00", Fixture.answerOf(x), Wire.totals(510, 0, 1).letters(39, "00").hex());
+        check.same("3", Wire.totals(500, 9, 1).send(x), 3);
+        check.text("03", Fixture.answerOf(x), Wire.totals(510, 9, 1).without(74).without(86).letters(39, "03").hex());
+        check.same("95", Wire.totals(500, 0, 2).digits(74, "0000000001").send(x), 95);
+        check.text("95 as letters", Fixture.answerOf(x), Wire.totals(510, 0, 2).letters(39, "95").hex());
+    }
+
     // ---- 30
 
     @Sentence("30: its type is that of an answer")

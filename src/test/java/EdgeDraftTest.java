@@ -253,7 +253,8 @@ public final class EdgeDraftTest {
         }
     }
 
-    @Sentence("Illegal argument: they are not 0 .. 9999, 0 .. 999999, 0 .. 99999.")
+    @Sentence("ORIGINAL of the draft: a type, a trace, 10 zeros, an acquirer in 11 digits, 11 zeros. Illegal argument: they "
+            + "are not 0 .. 9999, 0 .. 999999, 0 .. 99999.")
     static void originals(Check check) {
         PaymentSwitch x = new PaymentSwitch(4);
         int[] far = {-1, Integer.MIN_VALUE, Integer.MAX_VALUE};
@@ -429,6 +430,24 @@ public final class EdgeDraftTest {
                 asked(100, "410000000019", 1, 1, "10", 1, "000000000001").hex());
     }
 
+    @Sentence("The draft becomes a message of type 100 (or 101), and the tape that")
+    static void nothingStaysOfTheDraftBefore(Check check) {
+        PaymentSwitch x = Fixture.opened(30);
+        Fixture.ask(x, 1, 0, 5);
+        for (int way = 0; way < 4; way++) {
+            x.message(123);
+            for (int field : Fixture.KNOWN_FIELDS) {
+                put(x, field);
+            }
+            int n = way == 0 ? x.ask(0, 0, 0, 0, 0, 0, 0) : way == 1 ? x.present(1, 0, 0, 0)
+                    : way == 2 ? x.undo(1, true, 0, 0) : x.total(0, 0);
+            int[] due = {53, 51, 63, 36};
+            check.same("bytes " + way, n, due[way]);
+            check.same("the tape has them", x.trim(0), n);
+            check.same("so has the draft", x.compose(), n);
+        }
+    }
+
     // ---- promises 17 and 18
 
     @Sentence("Illegal argument: there is no such payment, or likewise; illegal state.")
@@ -479,8 +498,8 @@ public final class EdgeDraftTest {
                 .digits(4, "000000000006").digits(11, "000005").digits(32, "1").letters(37, "ZZZZZZZZZZZZ")
                 .letters(38, "000001").digits(49, "978").hex());
         Wire.reversal(420, 1, 8).digits(2, "0".repeat(18) + "9").letters(37, "00000000000A").send(x);
-        x.undo(2, true, 5, 0);
-        check.text("nineteen digits", Fixture.tapeOf(x), new Wire(420).digits(2, "0".repeat(18) + "9")
+        x.undo(2, false, 5, 0);
+        check.text("nineteen digits", Fixture.tapeOf(x), new Wire(400).digits(2, "0".repeat(18) + "9")
                 .digits(11, "000005").digits(32, "1").letters(37, "00000000000A")
                 .digits(90, "0100" + "000008" + "0000000000" + "00000000001" + "00000000000").hex());
     }

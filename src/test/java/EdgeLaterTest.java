@@ -123,6 +123,38 @@ public final class EdgeLaterTest {
         check.same("all are forgotten", x.cutoff(), 60);
     }
 
+    @Sentence("A tick: TIME grows by 1.")
+    static void manyTicksAreOneByOne(Check check) {
+        PaymentSwitch once = charged(0);
+        PaymentSwitch each = charged(0);
+        Fixture.ask(once, 5, 0, 50);
+        Fixture.ask(each, 5, 0, 50);
+        once.ticks(22);
+        each.checkpoint();
+        for (int i = 1; i <= 22; i++) {
+            check.same("tick " + i, each.ticks(1), i);
+        }
+        String counts = "count 0 [23] .*\n";
+        check.text("all is the same", Picture.ofState(once).replaceAll(counts, ""),
+                Picture.ofState(each).replaceAll(counts, ""));
+    }
+
+    @Sentence("DISPUTES, of a payment that is DONE: none, CHARGED (with an amount, until TIME and DISPUTE), REPRESENTED "
+            + "(likewise), WON, LOST.")
+    static void untilTimeAndDispute(Check check) {
+        PaymentSwitch x = charged(0);
+        check.same("CHARGED in tick 0", x.payment(1, 10), 20);
+        PaymentSwitch y = charged(20);
+        check.same("CHARGED in tick 20", y.payment(1, 10), 40);
+        y.represent(1);
+        check.same("REPRESENTED in tick 20", y.payment(1, 10), 40);
+        PaymentSwitch z = charged(20);
+        z.ticks(20);
+        z.represent(1);
+        check.same("REPRESENTED in tick 40", z.payment(1, 10), 60);
+        check.same("with the amount", z.payment(1, 9), 40);
+    }
+
     @Sentence("A DISPUTE that is CHARGED until a time before this one is WON")
     static void chargedUntil(Check check) {
         PaymentSwitch x = charged(5);

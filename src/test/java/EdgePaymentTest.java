@@ -650,7 +650,8 @@ public final class EdgePaymentTest {
         check.same("nothing is held", x.funds(0, 1), 0);
     }
 
-    @Sentence("but with REPLACEMENT that is above 0 and less than what is held: so much is held")
+    @Sentence("or it is HELD: nothing of it is held, and it is RELEASED; but with REPLACEMENT that is above 0 and less than "
+            + "what is held: so much is held")
     static void replacements(Check check) {
         long[] left = {0, 1, 99, 100, 101, MOST_AMOUNT};
         long[] held = {0, 1, 99, 0, 0, 0};

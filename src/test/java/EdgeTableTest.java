@@ -436,6 +436,17 @@ public final class EdgeTableTest {
 
     // ---- promise 6
 
+    @Sentence("(the first is not 0)")
+    static void numbersThatBeginWithZero(Check check) {
+        PaymentSwitch x = small(1);
+        x.route(0, 0, 1);
+        check.badArgument("eleven digits behind a 0", () -> x.card(Long.parseLong("041000000000"), 0));
+        x.card(Fixture.CARD_0, 0);
+        x.open();
+        check.same("a 0 in front of a card", Wire.request(100, 0, 1).digits(2, "0410000000019").send(x), 14);
+        check.same("the card", Wire.request(100, 0, 2).send(x), 0);
+    }
+
     @Sentence("each with a NUMBER of 12 .. 18 digits")
     static void numbersOfTwelveToEighteenDigits(Check check) {
         PaymentSwitch x = small(1);
@@ -473,7 +484,7 @@ public final class EdgeTableTest {
         check.same("account 1", x.card(Fixture.CARD_0, 1), 0);
     }
 
-    @Sentence("BAD: it is not GOOD")
+    @Sentence("A number is GOOD if the sum of its digits is a multiple of 10")
     static void oneDigitMakesItBad(Check check) {
         long[] numbers = {Fixture.CARD_0, Fixture.good(4999999999999999L)};
         for (long number : numbers) {
@@ -502,6 +513,16 @@ public final class EdgeTableTest {
                         last == lastOfThirteen ? 0 : PaymentSwitch.BAD);
             }
         }
+    }
+
+    @Sentence("BAD: it is not GOOD")
+    static void badNumbers(Check check) {
+        PaymentSwitch x = small(1);
+        for (int last = 0; last <= 9; last++) {
+            long number = 410000000010L + last;
+            check.same("number " + number, x.card(number, 0), number == Fixture.CARD_0 ? 0 : PaymentSwitch.BAD);
+        }
+        check.same("no number went", x.card(Fixture.CARD_4, 0), 1);
     }
 
     @Sentence("NOWHERE: it has no route")

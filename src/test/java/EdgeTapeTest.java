@@ -176,6 +176,9 @@ public final class EdgeTapeTest {
             fault(check, tape.substring(0, bytes * 2), SHORT, bytes);
         }
         fault(check, tape, SHORT, 18);
+        for (int bytes = 2; bytes < 10; bytes++) {
+            fault(check, "0800" + "00".repeat(bytes - 2), SHORT, bytes);
+        }
     }
 
     @Sentence("1 SHORT: it ends before what is to be read does, at its length")
@@ -365,7 +368,7 @@ public final class EdgeTapeTest {
 
     // ---- LENGTH
 
-    @Sentence("5 LENGTH: a number of digits or letters is out of its bounds, at its first byte")
+    @Sentence("2 CARD: how many digits, two digits in a byte (1 .. 19), these.")
     static void lengthsOfCards(Check check) {
         for (int n = 0; n <= 99; n++) {
             String length = String.format("%02d", n);
@@ -378,7 +381,7 @@ public final class EdgeTapeTest {
         }
     }
 
-    @Sentence("5 LENGTH: a number of digits or letters is out of its bounds, at its first byte")
+    @Sentence("32 ACQUIRER: as CARD, 1 .. 11.")
     static void lengthsOfAcquirers(Check check) {
         for (int n = 0; n <= 99; n++) {
             String length = String.format("%02d", n);
@@ -388,10 +391,9 @@ public final class EdgeTapeTest {
                 fault(check, ACQUIRER_ALONE + length + "00".repeat(50), LENGTH, 10);
             }
         }
-        fault(check, "0800 4000000100000000 01 05 12", LENGTH, 12);
     }
 
-    @Sentence("5 LENGTH: a number of digits or letters is out of its bounds, at its first byte")
+    @Sentence("54 NOTE: how many letters, three digits in two bytes (1 .. 40), these.")
     static void lengthsOfNotes(Check check) {
         for (int n = 0; n <= 999; n++) {
             String length = String.format("%04d", n);
@@ -401,6 +403,51 @@ public final class EdgeTapeTest {
                 fault(check, NOTE_ALONE + length + "41".repeat(60), LENGTH, 10);
             }
         }
+    }
+
+    @Sentence("5 LENGTH: a number of digits or letters is out of its bounds, at its first byte")
+    static void lengthsBehindOtherFields(Check check) {
+        fault(check, "0800 4000000100000000 01 05 00", LENGTH, 12);
+        fault(check, "0800 4000000100000000 01 05 12", LENGTH, 12);
+        fault(check, "0800 0020000000000400 000001 0000", LENGTH, 13);
+        fault(check, "0800 0020000000000400 000001 0041", LENGTH, 13);
+        fault(check, "0800 C000000000000000 0400000000000000 20", LENGTH, 18);
+    }
+
+    private static void fixed(Check check, int field, int bytes, String each) {
+        String front = field > 64 ? "0800 8000000000000000" + String.format("%016X", 1L << (128 - field))
+                : "0800" + String.format("%016X", 1L << (64 - field));
+        int begin = field > 64 ? 18 : 10;
+        noFault(check, front + each.repeat(bytes));
+        fault(check, front + each.repeat(bytes - 1), SHORT, begin + bytes - 1);
+        fault(check, front, SHORT, begin);
+        fault(check, front + each.repeat(bytes + 1), BEHIND, begin + bytes);
+    }
+
+    @Sentence("3 MODE: 6 digits. 4 AMOUNT: 12. 11 TRACE: 6.")
+    static void fieldsOfDigits(Check check) {
+        fixed(check, 3, 3, "00");
+        fixed(check, 4, 6, "99");
+        fixed(check, 11, 3, "09");
+    }
+
+    @Sentence("37 REFERENCE: 12 letters. 38 APPROVAL: 6 letters. 39 RESPONSE: 2 letters. 41 TERMINAL: 8 letters. "
+            + "49 CURRENCY: 3 digits.")
+    static void fieldsOfLetters(Check check) {
+        fixed(check, 37, 12, "5A");
+        fixed(check, 38, 6, "30");
+        fixed(check, 39, 2, "39");
+        fixed(check, 41, 8, "41");
+        fixed(check, 49, 2, "09");
+    }
+
+    @Sentence("70 NETWORK: 3 digits. 74 COUNT: 10 digits. 86 SUM: 16. 90 ORIGINAL: 42 digits. 95 REPLACEMENT: 12.")
+    static void fieldsOfTheSecondMap(Check check) {
+        fixed(check, 70, 2, "09");
+        fixed(check, 74, 5, "99");
+        fixed(check, 86, 8, "99");
+        fixed(check, 90, 21, "99");
+        fixed(check, 95, 6, "99");
     }
 
     // ---- LETTER

@@ -382,6 +382,46 @@ public final class EdgeToldTest {
         check.same("audit behind a cutoff", x.audit(), 0);
     }
 
+    @Sentence("positions, or what is settled, whose sum is not 0")
+    static void sumsAreZero(Check check) {
+        PaymentSwitch x = Fixture.opened(30);
+        for (int i = 1; i <= 5; i++) {
+            x.ask(0, i % 2, i, i % 4, 100 + i, 0, i);
+            x.send();
+            Fixture.present(x, i, i, 90 + i, 0);
+        }
+        x.charge(1, 7);
+        x.charge(2, 9);
+        x.represent(2);
+        for (int what = 0; what < 2; what++) {
+            long sum = x.acquired(0, what) + x.acquired(1, what);
+            for (int issuer = 0; issuer < 3; issuer++) {
+                sum += x.issued(issuer, what);
+            }
+            check.same("sum", sum + x.issued(6, what), 0);
+            check.no("each is 0", x.acquired(0, what) == 0);
+            check.same("audit", x.audit(), 0);
+            x.cutoff();
+        }
+    }
+
+    @Sentence("An object is used for at most 512 calls after it has been made")
+    static void callFiveHundredAndTwelve(Check check) {
+        PaymentSwitch x = new PaymentSwitch(4);
+        x.acquirer(0);
+        x.issuer(0);
+        x.route(0, 4, 1);
+        x.account(0, 1000, 0);
+        x.card(Fixture.CARD_0, 0);
+        x.open();
+        for (int i = 0; i < 252; i++) {
+            check.same("block", x.block(0, i % 2 == 0), 1);
+            check.same("snapshot", x.checkpoint(), 2);
+        }
+        check.same("call 511", x.count(3), 252 * 3);
+        check.same("call 512", x.audit(), 0);
+    }
+
     @Sentence("How many of these are so")
     static void auditOfNothing(Check check) {
         PaymentSwitch x = new PaymentSwitch(4);
