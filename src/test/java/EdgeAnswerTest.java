@@ -171,13 +171,14 @@ public final class EdgeAnswerTest {
     @Sentence("of the fields 2, 4, 11, 32, 37, 41, 49, 70 what the message has")
     static void longestFieldsAreAnsweredAsTheyCame(Check check) {
         PaymentSwitch x = Fixture.opened(4);
-        Wire m = new Wire(800).digits(2, "0".repeat(19)).digits(32, "0".repeat(11)).letters(37, "ABCDEFGHIJKL")
+        check.same("a message of these alone", longest(800).send(x), 30);
+        check.text("with all 0s in front", Fixture.answerOf(x), longest(810).letters(39, "30").hex());
+    }
+
+    private static Wire longest(int type) {
+        return new Wire(type).digits(2, "0".repeat(19)).digits(32, "0".repeat(11)).letters(37, "ABCDEFGHIJKL")
                 .letters(41, "MNOPQRST").digits(4, "999999999999").digits(11, "999999").digits(49, "999")
                 .digits(70, "999");
-        m.send(x);
-        check.text("with all 0s in front", Fixture.answerOf(x), m.hex().replaceFirst("^0800", "0810")
-                .replaceFirst("^(.{4}).{16}", "$1" + m.letters(39, "30").hex().substring(4, 20))
-                .replace(Fixture.hexOf("ABCDEFGHIJKL"), Fixture.hexOf("ABCDEFGHIJKL") + "3330"));
     }
 
     @Sentence("RESPONSE, which is told here as a number (of two digits)")

@@ -188,7 +188,8 @@ public final class EdgeJournalTest {
         x.crash(2);
         check.same("CUT", x.checkpoint(), PaymentSwitch.CUT);
         check.badState("when DOWN", x::checkpoint);
-        check.same("nothing was written then", x.recover() + x.count(3), 4);
+        x.recover();
+        check.same("nothing was written then", x.count(3), 4);
     }
 
     @Sentence("then no block of the journal is used")
@@ -309,7 +310,8 @@ public final class EdgeJournalTest {
         check.same("3", Wire.totals(500, 2, 50).send(x), 3);
         check.same("30", new Wire(100).send(x), 30);
         check.same("800", Wire.network(800, 1).send(x), 0);
-        check.same("FAULT", x.trim(1) > 0 ? x.send() : 0, PaymentSwitch.FAULT);
+        x.trim(1);
+        check.same("FAULT", x.send(), PaymentSwitch.FAULT);
         check.no("nothing fails", x.isDown());
         check.same("a tick does", x.ticks(1), PaymentSwitch.CUT);
         PaymentSwitch y = Fixture.opened(4);

@@ -11,6 +11,7 @@ final class Sentences {
     private Sentences() {
     }
 
+    // A sentence that was changed is told, and no fault: its test wants to be looked at again.
     static void run(Class<?> tests) throws IOException, IllegalAccessException {
         Check check = new Check();
         String document = Files.exists(DOCUMENT) ? plain(Files.readString(DOCUMENT)) : null;
@@ -20,9 +21,10 @@ final class Sentences {
             if (sentence != null) {
                 found++;
                 check.about(test.getName() + " (" + sentence.value() + "): ");
-                // A sentence that was changed wants its test looked at again.
-                check.yes("stands in the document", document == null || document.contains(plain(sentence.value())));
                 runOne(test, check);
+                if (document != null && !document.contains(plain(sentence.value()))) {
+                    System.out.println("note: the document says no more: " + sentence.value());
+                }
             }
         }
         check.about("");
