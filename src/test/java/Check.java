@@ -53,7 +53,7 @@ final class Check {
         }
     }
 
-    private void tell(String text) {
+    void tell(String text) {
         wrong++;
         System.out.println(subject + text);
     }
