@@ -10,6 +10,7 @@ import java.util.TreeSet;
 
 /** The public face, and those rules of LANGUAGE.md that can be seen from the class and its text. */
 public final class FaceTest {
+    private static final Path SOURCE = Path.of("src/main/java/PaymentSwitch.java");
     private static final Check CHECK = new Check();
     private static final String[] CALLS = {
         "int acquirer(int)", "int issuer(int)", "int route(int,int,int)", "int account(int,long,long)",
@@ -30,6 +31,7 @@ public final class FaceTest {
         constants();
         classesInside();
         text();
+        rowsOfTheDocument();
         CHECK.end();
     }
 
@@ -96,8 +98,22 @@ public final class FaceTest {
         }
     }
 
+    // With the names of parameters and the exceptions, which the class alone does not show.
+    private static void rowsOfTheDocument() throws IOException {
+        String source = Files.readString(SOURCE).replaceAll("\\s+", " ");
+        String document = Files.readString(Path.of("../shared/DOC.md"));
+        int begin = document.indexOf("public final class PaymentSwitch {");
+        int end = document.indexOf("\n}", begin);
+        CHECK.yes("the document has a face", begin >= 0 && end > begin);
+        for (String row : document.substring(Math.max(0, begin), Math.max(0, end)).split("\n")) {
+            String due = row.strip();
+            boolean isConstant = due.contains("=");
+            CHECK.yes("the text has '" + due + "'", source.contains(isConstant ? due : due.replace(";", " {")));
+        }
+    }
+
     private static void text() throws IOException {
-        String source = Files.readString(Path.of("src/main/java/PaymentSwitch.java"));
+        String source = Files.readString(SOURCE);
         String[] outside = {"import ", "package ", "->", "::", "static {", "synchronized", "assert ", "finally",
             "try ", "System.", "Exact(", "double ", "float "};
         for (String word : outside) {
